@@ -241,7 +241,7 @@ public final class SlipWall {
         trial.copyFrom(here);
         for (int n = 1; n <= FAR; n++) {
             // MOVED itself can't tell: it is held to 999.
-            if ((trial.passMinute() & 1 << slip) != 0) {
+            if ((trial.passMinute() & (1 << slip)) != 0) {
                 return n;
             }
         }
@@ -351,7 +351,7 @@ public final class SlipWall {
             return finding(FULL);
         }
         for (int i = n - 1; i >= 0; i--) {
-            tape.append(bytes >> 8 * i & 255);
+            tape.append((bytes >> (8 * i)) & 255);
         }
         return tape.length;
     }
@@ -376,7 +376,7 @@ public final class SlipWall {
     // ---- sheets
 
     public int sheet(int s, int bits, int n) {
-        if (noSheet(s) || bits != 0 && bits != 8 && bits != 16 && bits != 64) {
+        if (noSheet(s) || (bits != 0 && bits != 8 && bits != 16 && bits != 64)) {
             return finding(BEYOND);
         }
         if (n < 0) {
@@ -577,8 +577,11 @@ public final class SlipWall {
     }
 
     private int groupMostWanted(int slip) {
+        if (here.people == 0) {
+            return NO_ONE;
+        }
         best.forget();
-        for (int group = 0; group <= LAST_GROUP && here.people > 0; group++) {
+        for (int group = 0; group <= LAST_GROUP; group++) {
             best.offer(group, here.howManyWant(slip, group));
         }
         return best.one;
@@ -619,87 +622,72 @@ public final class SlipWall {
     }
 
     private static class Loud extends Person {
-        @Override
         boolean isUnder(int kind) {
             return kind == 1 || super.isUnder(kind);
         }
 
-        @Override
         boolean mayTouch(int moved, int moves, int minute) {
             return super.mayTouch(moved, moves, minute) || moved < 2;
         }
 
-        @Override
         boolean prefers(int moved, int movedOfLesser) {
             return true;
         }
 
-        @Override
         int turns() {
             return super.turns() + 1;
         }
     }
 
     private static class Shy extends Person {
-        @Override
         boolean isUnder(int kind) {
             return kind == 2 || super.isUnder(kind);
         }
 
-        @Override
         boolean mayTouch(int moved, int moves, int minute) {
             return super.mayTouch(moved, moves, minute) && moved == 0;
         }
     }
 
     private static final class Boss extends Person {
-        @Override
         boolean isUnder(int kind) {
             return kind == 3 || super.isUnder(kind);
         }
 
-        @Override
         boolean mayTouch(int moved, int moves, int minute) {
             return true;
         }
 
-        @Override
         boolean prefers(int moved, int movedOfLesser) {
             return moved > movedOfLesser;
         }
 
-        @Override
         boolean fixes(int moved) {
             return true;
         }
     }
 
     private static final class Pen extends Loud {
-        @Override
         boolean isUnder(int kind) {
             return kind == 4 || super.isUnder(kind);
         }
 
-        @Override
         int turns() {
             return super.turns() + 1;
         }
 
-        @Override
         boolean fixes(int moved) {
             return moved >= 5;
         }
     }
 
     private static final class Quiet extends Shy {
-        @Override
         boolean isUnder(int kind) {
             return kind == 5 || super.isUnder(kind);
         }
 
-        @Override
         boolean mayTouch(int moved, int moves, int minute) {
-            return super.mayTouch(moved, moves, minute) || minute % 2 == 1 && moved < moves;
+            return super.mayTouch(moved, moves, minute) || (minute % 2 == 1 && moved < moves);
         }
     }
 
