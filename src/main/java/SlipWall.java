@@ -599,7 +599,8 @@ public final class SlipWall {
 
     /** The KIND that all others stand under: each overrides just what the document says of it. */
     private static class Person {
-        boolean isUnder(int kind) {
+        /** Whether this is that KIND or one under it. */
+        boolean isKind(int kind) {
             return kind == 0;
         }
 
@@ -622,8 +623,8 @@ public final class SlipWall {
     }
 
     private static class Loud extends Person {
-        boolean isUnder(int kind) {
-            return kind == 1 || super.isUnder(kind);
+        boolean isKind(int kind) {
+            return kind == 1 || super.isKind(kind);
         }
 
         boolean mayTouch(int moved, int moves, int minute) {
@@ -640,8 +641,8 @@ public final class SlipWall {
     }
 
     private static class Shy extends Person {
-        boolean isUnder(int kind) {
-            return kind == 2 || super.isUnder(kind);
+        boolean isKind(int kind) {
+            return kind == 2 || super.isKind(kind);
         }
 
         boolean mayTouch(int moved, int moves, int minute) {
@@ -650,8 +651,8 @@ public final class SlipWall {
     }
 
     private static final class Boss extends Person {
-        boolean isUnder(int kind) {
-            return kind == 3 || super.isUnder(kind);
+        boolean isKind(int kind) {
+            return kind == 3 || super.isKind(kind);
         }
 
         boolean mayTouch(int moved, int moves, int minute) {
@@ -668,8 +669,8 @@ public final class SlipWall {
     }
 
     private static final class Pen extends Loud {
-        boolean isUnder(int kind) {
-            return kind == 4 || super.isUnder(kind);
+        boolean isKind(int kind) {
+            return kind == 4 || super.isKind(kind);
         }
 
         int turns() {
@@ -682,8 +683,8 @@ public final class SlipWall {
     }
 
     private static final class Quiet extends Shy {
-        boolean isUnder(int kind) {
-            return kind == 5 || super.isUnder(kind);
+        boolean isKind(int kind) {
+            return kind == 5 || super.isKind(kind);
         }
 
         boolean mayTouch(int moved, int moves, int minute) {
@@ -806,7 +807,7 @@ public final class SlipWall {
         }
 
         boolean isOfKind(int person, int kind) {
-            return kinds[kindOf[person]].isUnder(kind);
+            return kinds[kindOf[person]].isKind(kind);
         }
 
         /** Whether one HAS ITS WAY of a slip. */
