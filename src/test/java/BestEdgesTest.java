@@ -16,6 +16,7 @@ public final class BestEdgesTest {
         fix();
         winner();
         largest();
+        oneAfterAnother();
         Due.end();
     }
 
@@ -74,6 +75,9 @@ public final class BestEdgesTest {
         Run.of("22 LOUD: the first that moves two", "person(0) slip(5) slip(5) kind(0,1)=1");
         Run.of("22 BOSS: the first that FIXES", QUARREL + "kind(1,4)=3");
         Run.of("22 PEN: the only one that moves three", "person(0) slip(5) slip(5) slip(5) kind(0,1)=4");
+        // Who takes slip 0 drives the other one to take slip 1 away; the QUIET one lets him, and takes slip 2 in MINUTE 3.
+        Run.of("22 QUIET: the only one that waits and comes back", "person(0) person(0) person(0) slip(3) slip(1) slip(4)"
+            + " stick(0,1,1) stick(1,1,1) stick(2,1,1) wants(1,0,0) wants(1,1,5) wants(1,2,4) out(2,1) moves(2) kind(0,4)=5");
         Run.of("22 KIND stays", "person(5) slip(5) slip(5) slip(5) kind(0,1)=4 of(0,0)=5");
     }
 
@@ -138,5 +142,31 @@ public final class BestEdgesTest {
         Run.of("26 of several the least", "slip(5) slip(5) slip(4) slip(4) slip(3) largest(0)=4");
         Run.of("26 of six the least", "slip(5) slip(4) slip(3) slip(2) slip(1) slip(0) largest(200)=0");
         Run.of("26 ON, not now", "person(0) slip(3) slip(3) wants(0,0,4) wants(0,1,4) largest(0)=3 largest(1)=3 largest(2)=4");
+    }
+
+    /** What one call found best is nothing to the next, though it was better: the next answers as if asked alone. */
+    private static void oneAfterAnother() {
+        String[] calls = {"rule(0,1)", "send(0,1)", "kind(0,1)", "pair()", "fix(1)", "winner(0)", "largest(0)", "slipOf(0,4)"};
+        String alike = "slip(-1) ".repeat(10) + Run.SIX_PEOPLE + "moves(0) ";
+        String oneGroup = "slip(5) ".repeat(10) + "person(0) person(0) wants(0,0,1) wants(0,1,2) ";
+        for (String wall : new String[] {alike, oneGroup}) {
+            for (String first : calls) {
+                for (String second : calls) {
+                    long alone = Calls.make(made(wall), Calls.name(second), Calls.arguments(second));
+                    SlipWall x = made(wall);
+                    Calls.make(x, Calls.name(first), Calls.arguments(first));
+                    Due.due("20 to 26: " + second + " behind " + first,
+                        Calls.make(x, Calls.name(second), Calls.arguments(second)), alone);
+                }
+            }
+        }
+    }
+
+    private static SlipWall made(String wall) {
+        SlipWall x = new SlipWall();
+        for (String call : wall.trim().split(" ")) {
+            Calls.make(x, Calls.name(call), Calls.arguments(call));
+        }
+        return x;
     }
 }

@@ -1,7 +1,6 @@
 import java.lang.reflect.Method;
 import java.util.ArrayList;
 import java.util.Arrays;
-import java.util.Comparator;
 import java.util.List;
 import java.util.Random;
 
@@ -17,14 +16,9 @@ public final class ModelTest {
     private static final String[] ITEMS = {"slip 3", "slip floor fixed", "slip 0 fixed", "pen wants 1 2 3",
         "boss wants 5", "loud", "quiet wants 4 3 2 1 0", "shy", "person wants 2 2", "moves 7", "moves 20", "slip5"};
 
-    public static void main(String[] args) throws Exception {
+    public static void main(String[] args) {
         List<Method> face = new ArrayList<>();
-        for (Method m : SlipWall.class.getDeclaredMethods()) {
-            if (java.lang.reflect.Modifier.isPublic(m.getModifiers())) {
-                face.add(m);
-            }
-        }
-        face.sort(Comparator.comparing(Method::getName));
+        Calls.all().forEach(face::add);
         for (int run = 0; run < RUNS && !Due.isWrong(); run++) {
             new ModelTest(run, face).go();
         }
@@ -45,7 +39,7 @@ public final class ModelTest {
         this.face = face;
     }
 
-    private void go() throws Exception {
+    private void go() {
         // Some runs begin with nearly nothing, most with a wall that has something to quarrel about.
         int slips = random.nextInt(11);
         int people = random.nextInt(7);
@@ -70,7 +64,7 @@ public final class ModelTest {
         }
     }
 
-    private void text() throws Exception {
+    private void text() {
         StringBuilder text = new StringBuilder();
         int parts = 1 + random.nextInt(4);
         for (int i = 0; i < parts; i++) {
@@ -94,7 +88,7 @@ public final class ModelTest {
         call("wall");
     }
 
-    private void any() throws Exception {
+    private void any() {
         Method m = face.get(random.nextInt(face.size()));
         // A full room by chance alone would leave little else to see.
         if ((m.getName().equals("slip") || m.getName().equals("person")) && random.nextInt(4) != 0) {
@@ -142,15 +136,10 @@ public final class ModelTest {
         return random.nextInt(random.nextInt(4) == 0 ? 11 : 5) - (random.nextInt(12) == 0 ? 1 : 0);
     }
 
-    private void call(String name, long... a) throws Exception {
+    private void call(String name, long... a) {
         calls++;
-        Method m = face.stream().filter(f -> f.getName().equals(name)).findFirst().get();
-        Object[] boxed = new Object[a.length];
-        for (int i = 0; i < a.length; i++) {
-            boxed[i] = m.getParameterTypes()[i] == long.class ? (Object) a[i] : (Object) (int) a[i];
-        }
         String text = name + Arrays.toString(a);
-        long got = ((Number) m.invoke(program, boxed)).longValue();
+        long got = Calls.make(program, name, a);
         long want = model.call(name, a);
         log.add(text + "=" + want);
         Due.due("run " + run + ": " + text, got, want);

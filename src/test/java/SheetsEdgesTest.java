@@ -28,6 +28,8 @@ public final class SheetsEdgesTest {
         Run.of("30 bits 0 of one that is MISSING", "sheet(0,0,0)=0 write(0,0,0)=MISSING sheet(0,0,40)=0");
         Run.of("30 there again, all are 0", "sheet(0,8,3) write(0,1,9) sheet(0,0,0)=0 sheet(0,8,3)=3 write(0,1,0)=0");
         Run.of("30 the same again, all are 0", "sheet(0,8,3) write(0,1,9) sheet(0,8,3)=3 write(0,1,0)=0");
+        Run.of("30 the same again, the first is 0", "sheet(0,8,3) write(0,0,9) sheet(0,8,3)=3 write(0,0,0)=0");
+        Run.of("30 of other bits, the first is 0", "sheet(0,8,3) write(0,0,9) sheet(0,64,3)=3 write(0,0,0)=0");
         Run.of("30 shorter, then longer, all are 0", "sheet(0,8,40) write(0,39,9) sheet(0,8,1)=1 sheet(0,8,40)=40 write(0,39,0)=0");
         Run.of("30 the others stay", "sheet(0,8,1) sheet(1,8,1) write(0,0,5) write(1,0,6) sheet(0,64,2)=2 write(1,0,0)=6");
     }

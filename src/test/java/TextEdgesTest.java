@@ -12,6 +12,7 @@ public final class TextEdgesTest {
         everyByte();
         everyNumber();
         otherWords();
+        oneLetterOther();
         sixthNumber();
         eleventhSlip();
         seventhOne();
@@ -185,6 +186,30 @@ public final class TextEdgesTest {
         fault("a WORD goes over no blank", "p en", 0);
         fault("fixed twice", "slip 0 fixed fixed", 13);
         fault("wants twice", "pen wants 1 wants 1", 12);
+    }
+
+    /** Each WORD with each of its letters another one, with one less and with one more. */
+    private static void oneLetterOther() {
+        String[] texts = {"slip 0", "slip floor", "slip 0 fixed", "moves 1", "pen wants 0", "person", "loud", "shy", "boss",
+            "pen", "quiet"};
+        int[] places = {0, 5, 7, 0, 4, 0, 0, 0, 0, 0, 0};
+        for (int i = 0; i < texts.length; i++) {
+            int end = places[i];
+            while (end < texts[i].length() && texts[i].charAt(end) != ' ') {
+                end++;
+            }
+            right("as it should be", texts[i], 1);
+            for (int k = places[i]; k < end; k++) {
+                char other = texts[i].charAt(k) == 'z' ? 'a' : (char) (texts[i].charAt(k) + 1);
+                fault("another letter", texts[i].substring(0, k) + other + texts[i].substring(k + 1), places[i]);
+                // What stands ahead of a great letter is another WORD already, or the letter itself begins no TOKEN.
+                char great = (char) (texts[i].charAt(k) - 'a' + 'A');
+                fault("a great letter", texts[i].substring(0, k) + great + texts[i].substring(k + 1), places[i]);
+            }
+            fault("without the last letter", texts[i].substring(0, end - 1) + texts[i].substring(end), places[i]);
+            fault("without the first letter", texts[i].substring(0, places[i]) + texts[i].substring(places[i] + 1), places[i]);
+            fault("with one letter more", texts[i].substring(0, end) + "s" + texts[i].substring(end), places[i]);
+        }
     }
 
     /** 1 to 5 NUMBERS behind wants. */
