@@ -4,8 +4,8 @@ import java.util.Arrays;
 import java.util.List;
 
 /**
- * Every call with every mixture of arguments at the edges, right and wrong ones, on walls that are empty, small and
- * full: the answer, status() and what the wall is like then are those of the model.
+ * Every call with every mixture of chosen edge values (fewer of them for calls of three arguments and of five), on walls
+ * that are empty, small and full: the answer, status() and most of what the wall is like then are those of the model.
  */
 public final class GridTest {
     private static final long[] EDGES = {Integer.MIN_VALUE, -2, -1, 0, 1, 2, 3, 4, 5, 6, 7, 8, 9, 10, 16, 40, 41, 64, 100,
