@@ -7,6 +7,7 @@ import java.nio.file.Path;
 import java.util.Arrays;
 import java.util.Set;
 import java.util.TreeSet;
+import java.util.regex.Matcher;
 import java.util.regex.Pattern;
 import java.util.stream.Collectors;
 
@@ -20,10 +21,21 @@ public final class FaceTest {
         + " sheet(int,int,int) write(int,int,long) copy(int,int,int,int,int) lays(int,int) book(int,int)"
         + " read(int,int,int) image() undo() tear() count(int) status(int)";
 
+    private static final String[] HEADINGS = {"the wall: moves slip slipOf stick group now",
+        "people: person of wants out turn as alike", "minutes: minutes on way done moved",
+        "what is best: rule send kind pair fix winner largest", "the text: feed wipe wall",
+        "sheets: sheet write copy lays book read", "images: image undo tear count status"};
+
     public static void main(String[] args) throws Exception {
         visibleMembers();
         namesInside();
-        forbiddenWords();
+        String source = Files.readString(Path.of("src/main/java/SlipWall.java"));
+        String code = withoutComments(source);
+        Due.same("only ASCII", source.chars().allMatch(c -> c < 128), true);
+        forbiddenWords(code);
+        libraryCalls(code);
+        objectsMade(code);
+        headings(source);
         Due.end();
     }
 
@@ -54,10 +66,14 @@ public final class FaceTest {
             .collect(Collectors.joining(",")) + ")";
     }
 
-    /** No method inside bears a name of the face, and all classes inside are static. */
+    /** No other method bears a name of the face, and all classes inside are static. */
     private static void namesInside() {
         Set<String> names = Arrays.stream(FACE.split(" ")).map(s -> s.substring(0, s.indexOf('(')))
             .collect(Collectors.toSet());
+        for (Method m : SlipWall.class.getDeclaredMethods()) {
+            Due.same(m.getName() + " is private and bears a public name",
+                Modifier.isPrivate(m.getModifiers()) && names.contains(m.getName()), false);
+        }
         for (Class<?> inside : SlipWall.class.getDeclaredClasses()) {
             Due.same(inside + " is static", Modifier.isStatic(inside.getModifiers()), true);
             for (Method m : inside.getDeclaredMethods()) {
@@ -67,10 +83,13 @@ public final class FaceTest {
         Due.same("at most twelve classes", SlipWall.class.getDeclaredClasses().length <= 11, true);
     }
 
-    private static void forbiddenWords() throws Exception {
-        String source = Files.readString(Path.of("src/main/java/SlipWall.java"));
-        String code = source.replaceAll("(?s)/\\*.*?\\*/", " ").replaceAll("//[^\n]*", " ")
+    /** Constant texts become empty ones, so that their words don't count. */
+    private static String withoutComments(String source) {
+        return source.replaceAll("(?s)/\\*.*?\\*/", " ").replaceAll("//[^\n]*", " ")
             .replaceAll("\"[^\"\n]*\"", "\"\"");
+    }
+
+    private static void forbiddenWords(String code) {
         String[] words = {"throw", "try", "catch", "synchronized", "assert", "import", "package", "equals",
             "hashCode", "toString", "float", "double"};
         for (String word : words) {
@@ -78,6 +97,49 @@ public final class FaceTest {
         }
         Due.same("a lambda stands in the source", code.contains("->"), false);
         Due.same("a method reference stands in the source", code.contains("::"), false);
-        Due.same("only ASCII", source.chars().allMatch(c -> c < 128), true);
+        Due.same("an annotation stands in the source", code.contains("@"), false);
+    }
+
+    /** Of the library just these: all are in LANGUAGE.md's list. */
+    private static void libraryCalls(String code) {
+        Set<String> used = new TreeSet<>();
+        Matcher m = Pattern.compile("\\b(?:[A-Z]\\w*|word)\\.\\w+").matcher(code);
+        while (m.find()) {
+            used.add(m.group());
+        }
+        Due.same("what is used by its class's name", used, new TreeSet<>(Set.of("Integer.bitCount", "Math.min",
+            "Room.wish", "System.arraycopy", "word.charAt", "word.length")));
+    }
+
+    /** Only constructors make objects and arrays, so that a run of calls takes no room. */
+    private static void objectsMade(String code) {
+        Pattern header = Pattern.compile("^ {4,8}(?:[\\w\\[\\]]+ )*(\\w+)\\([^()]*\\) \\{$");
+        String method = "";
+        int made = 0;
+        for (String line : code.split("\n")) {
+            Matcher m = header.matcher(line);
+            if (m.matches()) {
+                method = m.group(1);
+            }
+            if (line.matches(".*\\bnew\\b.*")) {
+                made++;
+                Due.same(method + " is a constructor and may make an object", method.matches("[A-Z]\\w*"), true);
+            }
+        }
+        Due.same("some objects are made", made > 0, true);
+    }
+
+    /** What the document says that the interface says ahead of which calls. */
+    private static void headings(String source) {
+        StringBuilder due = new StringBuilder();
+        for (String heading : HEADINGS) {
+            due.append("---- ").append(heading.replace(": ", " ")).append(' ');
+        }
+        StringBuilder found = new StringBuilder();
+        Matcher m = Pattern.compile("(?m)^    (?:// (---- .*)|public (?:int|long) (\\w+)\\(.*)$").matcher(source);
+        while (m.find() && !"---- what the calls share".equals(m.group(1))) {
+            found.append(m.group(1) != null ? m.group(1) : m.group(2)).append(' ');
+        }
+        Due.same("headings and calls in their order", found.toString(), due.toString());
     }
 }
